@@ -209,16 +209,13 @@ public final class NotaryHall {
         if (!haste && !transaction.isValid()) {
             return INVALID;
         }
-        int initiator = bit(transaction.initiator);
-        int others = transaction.needs() & ~initiator;
-        transaction.signed = initiator;
-        transaction.hasty = haste;
-        if (haste || others == 0) {
+        transaction.seal(haste);
+        if (haste || transaction.needsNobodyElse()) {
             transaction.stage = NOTARISING;
             return sendNotarise(transaction);
         }
         transaction.stage = SIGNING;
-        return sendToEach(ASK, transaction, others);
+        return sendToOthers(ASK, transaction, transaction.needed);
     }
 
     // ---- messages, the clock and consent
@@ -394,7 +391,7 @@ public final class NotaryHall {
             return TAKEN;
         }
         int signed = transaction.signed | bit(sender);
-        boolean complete = (transaction.needs() & ~signed) == 0;
+        boolean complete = (transaction.needed & ~signed) == 0;
         if (complete) {
             sendNotarise(transaction);
         }
@@ -425,8 +422,7 @@ public final class NotaryHall {
             return COPY;
         }
         if (content == COMMITTED) {
-            int others = (transaction.needs() | transaction.concerned()) & ~bit(transaction.initiator);
-            sendToEach(FINALITY, transaction, others);
+            sendToOthers(FINALITY, transaction, transaction.needed | transaction.concerned());
         }
         if (!fails) {
             settle(transaction, content);
@@ -442,7 +438,7 @@ public final class NotaryHall {
         if (has(node.recorded, transaction.number)) {
             return COPY;
         }
-        if (!transaction.isSound()) {
+        if (!transaction.sound) {
             return REJECTED;
         }
         if (!fails) {
@@ -456,7 +452,7 @@ public final class NotaryHall {
         if (clock < transaction.from || clock >= transaction.until) {
             return LATE;
         }
-        if (transaction.notary == CHECKING_NOTARY && !transaction.isSound()) {
+        if (transaction.notary == CHECKING_NOTARY && !transaction.sound) {
             return FAULTY;
         }
         return isAnyInputUsedUp(transaction) ? CONFLICT : COMMITTED;
@@ -482,7 +478,7 @@ public final class NotaryHall {
     private void settle(Transaction transaction, int verdictGiven) {
         switch (verdictGiven) {
             case COMMITTED:
-                if (transaction.isSound()) {
+                if (transaction.sound) {
                     transaction.stage = FINAL;
                     nodes[transaction.initiator].enter(transaction.number);
                 } else {
@@ -511,10 +507,10 @@ public final class NotaryHall {
         return send(NOTARISE, transaction, transaction.initiator, transaction.notary, 0);
     }
 
-    private int sendToEach(int kind, Transaction transaction, int receivers) {
+    private int sendToOthers(int kind, Transaction transaction, int receivers) {
         int sent = 0;
         for (int node = 0; node < NODES; node++) {
-            if (has(receivers, node)) {
+            if (has(receivers, node) && node != transaction.initiator) {
                 sent += send(kind, transaction, transaction.initiator, node, 0);
             }
         }
@@ -760,7 +756,9 @@ public final class NotaryHall {
         /** The transactions that a node fetches for this one. */
         int ancestors;
         int stage;
-        boolean hasty;
+        /** NEEDS and SOUND as they are from the proposal on. */
+        int needed;
+        boolean sound;
         int signed;
         /** The nodes that have decided, and those of them that said yes. */
         int decided;
@@ -803,8 +801,15 @@ public final class NotaryHall {
             return stage == DRAFT || stage == SIGNING || stage == NOTARISING;
         }
 
-        boolean isSound() {
-            return isValid() && (!hasty || needs() == bit(initiator));
+        /** A proposed transaction and its inputs never change, so what is told of them here holds for good. */
+        void seal(boolean haste) {
+            signed = bit(initiator);
+            needed = needs();
+            sound = isValid() && (!haste || needsNobodyElse());
+        }
+
+        boolean needsNobodyElse() {
+            return needed == bit(initiator);
         }
 
         boolean isValid() {

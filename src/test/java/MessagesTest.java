@@ -6,6 +6,7 @@ public final class MessagesTest {
         noSuchMessage();
         ask();
         askFails();
+        decisionsAreKeptApart();
         replies();
         replyRefuses();
         replyFails();
@@ -100,6 +101,25 @@ public final class MessagesTest {
         y.deliver(0, false);
         check.due("ask fails: a no is kept", y.message(-1), 1);
         check.due("ask fails: REPLY no", y.message(0), Halls.code(Halls.REPLY, 1, 0, u, 0));
+    }
+
+    private static void decisionsAreKeptApart() {
+        NotaryHall x = new NotaryHall();
+        int t = Halls.draft(x, 0, Halls.CHECKING);
+        x.produce(t, Halls.CASH, 1, 0, 10);
+        x.produce(t, Halls.CASH, 2, 0, 10);
+        x.consent(1, 0, false);
+        x.propose(t, false);
+        x.deliver(0, true);
+        x.deliver(1, true);
+        x.consent(1, 0, true);
+        x.deliver(0, true);
+        check.due("decisions: 1 says no still", x.message(-1), 4);
+        check.due("decisions: of 1", x.message(2), Halls.code(Halls.REPLY, 1, 0, t, 0));
+        check.due("decisions: of 2", x.message(3), Halls.code(Halls.REPLY, 2, 0, t, 1));
+        int other = askedOf1(x, 10);
+        x.deliver(4, false);
+        check.due("decisions: on another transaction", x.message(4), Halls.code(Halls.REPLY, 1, 0, other, 1));
     }
 
     private static void replies() {
@@ -474,5 +494,9 @@ public final class MessagesTest {
         int again = askedOf1(x, 1);
         Halls.deliverAll(x);
         check.due("consent: given again", x.stage(again), 3);
+        int third = Halls.draft(x, 2, Halls.PLAIN);
+        x.produce(third, Halls.CASH, 1, 2, 1);
+        Halls.finish(x, third);
+        check.due("consent: given to one, kept for another", x.stage(third), 3);
     }
 }

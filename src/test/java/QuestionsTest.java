@@ -218,6 +218,13 @@ public final class QuestionsTest {
         check.due("spender: used up", x.spender(u, 1), t);
         check.due("spender: the other is not", x.spender(u, 0), -1);
         check.due("spender: no such state", x.spender(u, 2), -1);
+        int full = Halls.draft(x, 0, Halls.CHECKING);
+        for (int o = 0; o < 4; o++) {
+            x.produce(full, Halls.LOCK, 0, 0, 1);
+        }
+        check.due("spender: the last state", x.spender(full, 3), -1);
+        check.due("spender: no fifth state", x.spender(full, 4), -1);
+        check.due("spender: no fifth state to bind", x.bind(full, 0, 4), -1);
     }
 
     private static void standing() {
@@ -321,6 +328,21 @@ public final class QuestionsTest {
         Halls.finish(x, more);
         check.due("fetched: what is known is not counted again", x.fetched(1), 11);
         check.due("fetched: nobody else", x.fetched(2), 0);
+        fetchedFromTwoSources();
+    }
+
+    private static void fetchedFromTwoSources() {
+        NotaryHall x = new NotaryHall();
+        int a = Halls.issue(x, 0, 0, 10, Halls.CHECKING);
+        int b = Halls.issue(x, 0, 0, 20, Halls.CHECKING);
+        int t = Halls.draft(x, 0, Halls.CHECKING);
+        x.consume(t, a, 0);
+        x.consume(t, b, 0);
+        x.produce(t, Halls.CASH, 0, 1, 30);
+        Halls.finish(x, t);
+        check.due("fetched: both sources", x.fetched(1), 2);
+        check.due("fetched: the first source", x.standing(1, a), 1);
+        check.due("fetched: the second source", x.standing(1, b), 1);
     }
 
     private static void treeLeaves() {
